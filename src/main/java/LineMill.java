@@ -32,9 +32,6 @@ public final class LineMill {
     private final long[] tokens = new long[MOST_TOKENS];
 
     private int length;
-    // The length when the line at hand was taken: a 92 at its end must stay a token
-    // of that line even if an LF is fed behind it later.
-    private int end;
 
     private int at;
     private int line;
@@ -102,16 +99,15 @@ public final class LineMill {
         if (stopped) {
             return NONE;
         }
-        end = length;
         pass(leftFrom(at));
-        if (at >= end) {
+        if (at >= length) {
             return NONE;
         }
         openLine();
         int fault = NO_FAULT;
         boolean ended = false;
         // Every turn passes a byte at least.
-        for (int turn = 0; turn < MOST_BYTES && at < end && !ended && fault == NO_FAULT; turn++) {
+        for (int turn = 0; turn < MOST_BYTES && at < length && !ended && fault == NO_FAULT; turn++) {
             ended = byteAt(at) == LF;
             fault = cutPiece();
         }
@@ -154,6 +150,8 @@ public final class LineMill {
         if (k > bytes / 8) {
             return 0;
         }
+        // What was fed since can't change what is read here: only a token that is a 92 alone
+        // ends with one, and the first byte is read without a look at what follows it.
         int p = startOf(tokens[i]);
         for (int skipped = 0; skipped < 8 * k; skipped++) {
             p = leftFrom(p + 1);
@@ -167,7 +165,6 @@ public final class LineMill {
     }
 
     private void restart() {
-        end = 0;
         at = 0;
         line = 1;
         tokenLines = 0;
@@ -198,7 +195,7 @@ public final class LineMill {
     /** The place of the first byte from p on that splicing leaves. */
     private int leftFrom(int p) {
         int q = p;
-        while (q + 1 < end && byteAt(q) == BACKSLASH && byteAt(q + 1) == LF) {
+        while (q + 1 < length && byteAt(q) == BACKSLASH && byteAt(q + 1) == LF) {
             q += 2;
         }
         return q;
@@ -223,8 +220,6 @@ public final class LineMill {
     private void openLine() {
         found = 0;
         before = true;
-        firstLine = 0;
-        excessLine = 0;
         openTextsUpTo = 0;
         openCharactersUpTo = 0;
     }
@@ -354,7 +349,7 @@ public final class LineMill {
     private int commentEnd(int inside) {
         int q = inside;
         boolean star = false;
-        while (q < end) {
+        while (q < length) {
             int value = byteAt(q);
             q = leftFrom(q + 1);
             if (star && value == '/') {
@@ -367,7 +362,7 @@ public final class LineMill {
 
     private int lineEnd(int p) {
         int q = p;
-        while (q < end && byteAt(q) != LF) {
+        while (q < length && byteAt(q) != LF) {
             q = leftFrom(q + 1);
         }
         return q;
@@ -385,14 +380,14 @@ public final class LineMill {
             return NO_END;
         }
         int q = leftFrom(p + 1);
-        while (q < end && byteAt(q) != LF) {
+        while (q < length && byteAt(q) != LF) {
             int value = byteAt(q);
             q = leftFrom(q + 1);
             if (value == quote) {
                 return q;
             }
             // An LF ends the line even behind a 92 that splicing left.
-            if (value == BACKSLASH && q < end && byteAt(q) != LF) {
+            if (value == BACKSLASH && q < length && byteAt(q) != LF) {
                 q = leftFrom(q + 1);
             }
         }
@@ -406,7 +401,7 @@ public final class LineMill {
 
     private int nameEnd(int p) {
         int q = p;
-        while (q < end && (isLetter(byteAt(q)) || isDigit(byteAt(q)))) {
+        while (q < length && (isLetter(byteAt(q)) || isDigit(byteAt(q)))) {
             q = leftFrom(q + 1);
         }
         return q;
@@ -415,7 +410,7 @@ public final class LineMill {
     private int numberEnd(int p, int first) {
         int q = p;
         int last = first;
-        while (q < end && goesOnNumber(byteAt(q), last)) {
+        while (q < length && goesOnNumber(byteAt(q), last)) {
             last = byteAt(q);
             q = leftFrom(q + 1);
         }

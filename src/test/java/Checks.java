@@ -57,7 +57,7 @@ final class Checks {
     /** Makes the text n bytes long by doubling what stands from a place on. */
     static void grow(LineMill mill, int from, int has, int n) {
         int now = has;
-        while (now > from && now < n) {
+        for (int step = 0; step < 20 && now > from && now < n; step++) {
             now = mill.again(from, Math.min(now - from, n - now));
         }
         if (now != n) {
