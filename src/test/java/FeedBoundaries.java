@@ -249,7 +249,7 @@ final class FeedBoundaries {
 
     private void clearEmpties() {
         for (int bytes : new int[] {0, 1, 8, 9, 32767, 32768}) {
-            LineMill mill = bytes == 0 ? new LineMill() : Checks.mill("a");
+            LineMill mill = bytes == 0 ? new LineMill() : Checks.mill("+");
             Checks.grow(mill, 0, bytes == 0 ? 0 : 1, bytes);
             mill.clear();
             book.due(bytes + " bytes: nothing is left", mill.next(), LineMill.NONE);
