@@ -153,6 +153,13 @@ final class FeedBoundaries {
         Checks.feed(end, "\n");
         book.due("its LF alone comes", Checks.line(end), "0");
         book.due("and ends it", end.told(3), 2);
+        for (String text : new String[] {"a", "1", "+", "'", "a //", "a /**/", "a\\\n"}) {
+            LineMill any = Checks.mill(text);
+            any.next();
+            Checks.feed(any, ";");
+            book.due("the very next byte behind <" + text + ">", any.next(), 1);
+            book.due("is all that came behind <" + text + ">", any.spelling(0, 0), ';');
+        }
         LineMill slash = Checks.mill("x\\");
         book.due("a 92 is taken", Checks.line(slash), "2 1:1*x 6:1.\\");
         Checks.feed(slash, "\n");

@@ -42,6 +42,10 @@ final class TextBoundaries {
         book.due("all of them are one name", mill.next(), 1);
         book.due("of 32768 bytes", mill.token(0, 2), 32768);
         book.due("the last eight", mill.spelling(0, 4095), Checks.word("abcdefxa", 0));
+        LineMill blanks = Checks.mill(" ");
+        Checks.grow(blanks, 0, 1, 32768);
+        book.due("32768 blanks are one line", blanks.next(), 0);
+        book.due("and nothing is left of them", blanks.next(), LineMill.NONE);
     }
 
     private void letters() {
