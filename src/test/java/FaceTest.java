@@ -5,6 +5,10 @@ import java.lang.reflect.Modifier;
 import java.util.Arrays;
 import java.util.Set;
 import java.util.TreeSet;
+import java.util.regex.Matcher;
+import java.util.regex.Pattern;
+import java.util.stream.Collectors;
+import java.util.stream.Stream;
 
 /** The public face, and rules 1 and 5 of LANGUAGE.md as far as reflection sees them. */
 public final class FaceTest {
@@ -14,6 +18,7 @@ public final class FaceTest {
         constants();
         publicMembers();
         privateMembers();
+        documentsFace();
         checks.finish("FaceTest");
     }
 
@@ -66,5 +71,26 @@ public final class FaceTest {
             checks.due(field.getName() + " is final if it is static",
                 Modifier.isStatic(modifiers) && !Modifier.isFinal(modifiers) ? 1 : 0, 0);
         }
+    }
+
+    /** The members as the document declares them, without the names of parameters. */
+    private static void documentsFace() {
+        String block = Book.document().replaceAll("(?s)^.*?```java\n(.*?)```.*$", "$1");
+        Set<String> declared = new TreeSet<>();
+        Matcher member = Pattern.compile("(?m)^    public (.*);$").matcher(block);
+        while (member.find()) {
+            declared.add(member.group(1).replaceAll(" \\w+(?=[,)])", ""));
+        }
+        Set<String> there = new TreeSet<>();
+        there.add("static final int BAD = " + LineMill.BAD + ", NONE = " + LineMill.NONE + ", FULL = " + LineMill.FULL);
+        there.add("LineMill()");
+        for (Method method : LineMill.class.getDeclaredMethods()) {
+            if (Modifier.isPublic(method.getModifiers())) {
+                there.add(method.getReturnType() + " " + method.getName() + "(" + Stream.of(method.getParameterTypes())
+                    .map(Class::getName).collect(Collectors.joining(", ")) + ")");
+            }
+        }
+        checks.due("the document's face", there.toString(), declared.toString());
+        checks.due("public final class", block.startsWith("public final class LineMill {") ? 1 : 0, 1);
     }
 }
